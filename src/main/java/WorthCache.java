@@ -209,12 +209,7 @@ public final class WorthCache {
     /** Returns how many entries would leave to make room for a size; NONE if it stayed out. */
     public int wouldLeave(int size) throws IllegalArgumentException {
         requireWithin(size, 1, MOST_SIZE);
-        if (size > capacity) {
-            return NONE;
-        }
-        if (hasRoom(size)) {
-            return 0;
-        }
+        // A size above the capacity is above what the pinned entries leave of it, too.
         return size > capacity - bytesThatCannotLeave() ? NONE : countThatWouldLeave(size);
     }
 
@@ -427,7 +422,7 @@ public final class WorthCache {
         return count;
     }
 
-    /** Goes the way of makeRoom without a change: entries that are over are gone before. */
+    /** Goes the way of makeRoom without a change; what is over makes room before anything leaves. */
     private int countThatWouldLeave(int size) {
         int bytes = bytesNotOver();
         int count = 0;
