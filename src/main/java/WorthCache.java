@@ -170,7 +170,7 @@ public final class WorthCache {
 
     /** Returns the thing whose entry has a place in the order of leaving, over or not. */
     public int leaving(int place) throws IndexOutOfBoundsException {
-        Slot slot = place < 0 ? null : firstInOrder();
+        Slot slot = place < 0 || place >= THINGS ? null : firstInOrder();
         for (int at = 0; at < place && slot != null; at++) {
             slot = nextInOrder(slot);
         }

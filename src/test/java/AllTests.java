@@ -7,6 +7,7 @@ public final class AllTests {
         EventsTest.run(checks);
         EntriesTest.run(checks);
         AccountsTest.run(checks);
+        RefusedTest.run(checks);
         ModelTest.run(checks);
         if (!checks.report()) {
             System.exit(1);

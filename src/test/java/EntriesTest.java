@@ -1,285 +1,669 @@
 /** Promises 9 to 18: what is asked of the entries. */
 final class EntriesTest {
-    private static final int NONE = WorthCache.NONE;
-
     static void run(Checks checks) {
-        checks.test("promises 9 to 14, 16: an empty cache", () -> empty(checks));
-        checks.test("promises 9 to 14, 16: no such thing", () -> noSuchThing(checks));
-        checks.test("promise 9: has", () -> has(checks));
-        checks.test("promise 10: isOver", () -> isOver(checks));
-        checks.test("promise 11: sizeOf", () -> sizeOf(checks));
-        checks.test("promise 12: frequencyOf", () -> frequencyOf(checks));
-        checks.test("promise 13: worthOf", () -> worthOf(checks));
-        checks.test("promise 14: endOf", () -> endOf(checks));
-        checks.test("promise 15: leaving", () -> leaving(checks));
-        checks.test("promise 15: leaving, no such place", () -> leavingRefused(checks));
-        checks.test("promise 16: placeOf", () -> placeOf(checks));
-        checks.test("promises 15 and 16: the same worth", () -> sameWorth(checks));
-        checks.test("promise 17: endsFirst", () -> endsFirst(checks));
-        checks.test("promise 18: wouldLeave", () -> wouldLeave(checks));
-        checks.test("promise 18: wouldLeave, pinned and over", () -> wouldLeavePinned(checks));
-        checks.test("promise 18: wouldLeave asks nothing of the threshold", () -> wouldLeaveThreshold(checks));
-        checks.test("promise 18: wouldLeave, refused", () -> wouldLeaveRefused(checks));
-    }
-
-    private static void empty(Checks checks) {
-        WorthCache cache = new WorthCache();
-        for (int thing = 0; thing < 32; thing++) {
-            checks.due("has", cache.has(thing), false);
-            checks.due("isOver", cache.isOver(thing), false);
-            checks.due("sizeOf", cache.sizeOf(thing), 0);
-            checks.due("frequencyOf", cache.frequencyOf(thing), 0);
-            checks.due("worthOf", cache.worthOf(thing), NONE);
-            checks.due("endOf", cache.endOf(thing), NONE);
-            checks.due("placeOf", cache.placeOf(thing), NONE);
-        }
-    }
-
-    private static void noSuchThing(Checks checks) {
-        WorthCache cache = Checks.fullOfAll();
-        Class<IndexOutOfBoundsException> due = IndexOutOfBoundsException.class;
-        int[] wrong = {-1, 32, Integer.MIN_VALUE, Integer.MAX_VALUE};
-        for (int thing : wrong) {
-            checks.refused(cache, due, "has of " + thing, () -> cache.has(thing));
-            checks.refused(cache, due, "isOver of " + thing, () -> cache.isOver(thing));
-            checks.refused(cache, due, "sizeOf of " + thing, () -> cache.sizeOf(thing));
-            checks.refused(cache, due, "frequencyOf of " + thing, () -> cache.frequencyOf(thing));
-            checks.refused(cache, due, "worthOf of " + thing, () -> cache.worthOf(thing));
-            checks.refused(cache, due, "endOf of " + thing, () -> cache.endOf(thing));
-            checks.refused(cache, due, "placeOf of " + thing, () -> cache.placeOf(thing));
-        }
+        has(checks);
+        isOver(checks);
+        sizeOf(checks);
+        frequencyOf(checks);
+        worthRounded(checks);
+        worthStays(checks);
+        endOf(checks);
+        leaving(checks);
+        orderOfWorth(checks);
+        orderOfTheSameWorth(checks);
+        placeOf(checks);
+        endsFirst(checks);
+        wouldLeaveRoom(checks);
+        wouldLeaveOver(checks);
+        wouldLeavePinned(checks);
+        wouldLeaveAsFetch(checks);
     }
 
     private static void has(Checks checks) {
-        WorthCache cache = new WorthCache();
-        cache.fetch(0, 10, 1, 5);
-        cache.fetch(31, 10, 1, 5);
-        cache.pass(5);
-        checks.due("has(0), over", cache.has(0), true);
-        checks.due("has(31), over", cache.has(31), true);
-        checks.due("has(1)", cache.has(1), false);
-        cache.drop(31);
-        checks.due("has(31), dropped", cache.has(31), false);
+        checks.script("promise 9, has: no thing in an empty cache", """
+                all: has(#) = false
+                """);
+        checks.script("promise 9, has: each thing in a full one", """
+                setCapacity(32) = 0
+                all: fetch(#, 1, 1, 9) = LET_IN
+                all: has(#) = true
+                """);
+        checks.script("promise 9, has: over or not, pinned or not", """
+                fetch(0, 10, 1, 5) = LET_IN
+                fetch(1, 10, 1, 5) = LET_IN
+                pin(1, true) = false
+                has(0) = true
+                has(1) = true
+                pass(5) = 5
+                has(0) = true
+                has(1) = true
+                """);
+        checks.script("promise 9, has: not what was kept out, dropped, or has left", """
+                fetch(0, 101, 1, 5) = KEPT_OUT
+                has(0) = false
+                fetch(0, 60, 1, 5) = LET_IN
+                fetch(1, 60, 1, 5) = LET_IN
+                has(0) = false
+                drop(1) = 60
+                has(1) = false
+                """);
     }
 
     private static void isOver(Checks checks) {
-        WorthCache cache = new WorthCache();
-        cache.fetch(0, 10, 1, 5);
-        cache.fetch(31, 10, 1, 6);
-        cache.pin(0, true);
-        cache.pass(4);
-        checks.due("isOver(0) at 4", cache.isOver(0), false);
-        cache.pass(1);
-        checks.due("isOver(0) at 5", cache.isOver(0), true);
-        checks.due("isOver(31) at 5", cache.isOver(31), false);
-        cache.pass(1);
-        checks.due("isOver(0) at 6", cache.isOver(0), true);
-        checks.due("isOver(31) at 6", cache.isOver(31), true);
-        checks.due("isOver(1)", cache.isOver(1), false);
-        cache.drop(31);
-        checks.due("isOver(31), dropped", cache.isOver(31), false);
+        checks.script("promise 10, isOver: just before its end, at it and behind it", """
+                pass(7) = 7
+                fetch(0, 10, 1, 5) = LET_IN
+                isOver(0) = false
+                pass(4) = 11
+                isOver(0) = false
+                pass(1) = 12
+                isOver(0) = true
+                pass(1) = 13
+                isOver(0) = true
+                """);
+        checks.script("promise 10, isOver: pinned, too", """
+                fetch(31, 10, 1, 5) = LET_IN
+                pin(31, true) = false
+                pass(4) = 4
+                isOver(31) = false
+                pass(1) = 5
+                isOver(31) = true
+                """);
+        checks.script("promise 10, isOver: false in an empty cache", """
+                all: isOver(#) = false
+                pass(10000) = 10000
+                all: isOver(#) = false
+                """);
+        checks.script("promise 10, isOver: false when the entry that was over is gone", """
+                fetch(0, 10, 1, 5) = LET_IN
+                fetch(1, 10, 1, 5) = LET_IN
+                pass(5) = 5
+                drop(0) = 10
+                isOver(0) = false
+                purge() = 1
+                isOver(1) = false
+                """);
     }
 
     private static void sizeOf(Checks checks) {
-        WorthCache cache = new WorthCache();
-        cache.setCapacity(2000);
-        cache.fetch(0, 1, 1, 5);
-        cache.fetch(31, 1000, 1, 5);
-        cache.pass(5);
-        checks.due("sizeOf(0)", cache.sizeOf(0), 1);
-        checks.due("sizeOf(31)", cache.sizeOf(31), 1000);
-        cache.drop(31);
-        checks.due("sizeOf(31), dropped", cache.sizeOf(31), 0);
+        checks.script("promise 11, sizeOf: 0 in an empty cache", """
+                all: sizeOf(#) = 0
+                """);
+        checks.script("promise 11, sizeOf: the least and the greatest, over or not", """
+                setCapacity(1001) = 0
+                fetch(0, 1, 1, 5) = LET_IN
+                fetch(31, 1000, 1, 5) = LET_IN
+                sizeOf(0) = 1
+                sizeOf(31) = 1000
+                pass(5) = 5
+                sizeOf(0) = 1
+                sizeOf(31) = 1000
+                """);
+        checks.script("promise 11, sizeOf: 0 when the entry is gone", """
+                fetch(0, 60, 1, 5) = LET_IN
+                fetch(1, 60, 1, 5) = LET_IN
+                sizeOf(0) = 0
+                drop(1) = 60
+                sizeOf(1) = 0
+                fetch(2, 101, 1, 5) = KEPT_OUT
+                sizeOf(2) = 0
+                """);
     }
 
     private static void frequencyOf(Checks checks) {
-        WorthCache cache = new WorthCache();
-        for (int i = 1; i <= 100; i++) {
-            cache.fetch(31, 10, 1, 5);
-            checks.due("frequencyOf(31)", cache.frequencyOf(31), i);
-        }
-        cache.pass(5);
-        checks.due("frequencyOf(31), over", cache.frequencyOf(31), 100);
-        cache.drop(31);
-        checks.due("frequencyOf(31), dropped", cache.frequencyOf(31), 0);
+        checks.script("promise 12, frequencyOf: 0 in an empty cache", """
+                all: frequencyOf(#) = 0
+                """);
+        checks.script("promise 12, frequencyOf: 1 when let in, then one more for each hit, over or not", """
+                fetch(31, 10, 1, 5) = LET_IN
+                frequencyOf(31) = 1
+                fetch(31, 10, 1, 5) = HIT
+                frequencyOf(31) = 2
+                pass(5) = 5
+                frequencyOf(31) = 2
+                """);
+        checks.script("promise 12, frequencyOf: after as many calls as an object is used for", """
+                fetch(0, 10, 1, 5) = LET_IN
+                510 x fetch(0, 10, 1, 5) = HIT
+                frequencyOf(0) = 511
+                """);
+        checks.script("promise 12, frequencyOf: 0 when the entry is gone, 1 when it is let in again", """
+                fetch(0, 10, 1, 5) = LET_IN
+                fetch(0, 10, 1, 5) = HIT
+                drop(0) = 10
+                frequencyOf(0) = 0
+                fetch(0, 10, 1, 5) = LET_IN
+                frequencyOf(0) = 1
+                """);
     }
 
-    private static void worthOf(Checks checks) {
-        WorthCache cache = new WorthCache();
-        long due = 0;
-        for (int i = 1; i <= 500; i++) {
-            cache.fetch(31, 1, 1000, 5);
-            due += 1000000;
-        }
-        checks.due("worthOf(31)", cache.worthOf(31), due);
-        cache.fetch(0, 100, 1, 5);
-        checks.due("clock()", cache.clock(), 500000000);
-        checks.due("worthOf(0)", cache.worthOf(0), 500000010);
-        cache.pin(0, true);
-        cache.pass(5);
-        checks.due("worthOf(0), over and pinned", cache.worthOf(0), 500000010);
-        checks.due("worthOf(31), gone", cache.worthOf(31), NONE);
+    private static void worthRounded(Checks checks) {
+        checks.script("promise 13, worthOf: rounded down: just above and just below a whole number", """
+                setCapacity(10000) = 0
+                fetch(0, 999, 1, 9) = LET_IN
+                worthOf(0) = 1
+                fetch(1, 1000, 1, 9) = LET_IN
+                worthOf(1) = 1
+                fetch(2, 501, 1, 9) = LET_IN
+                worthOf(2) = 1
+                fetch(3, 500, 1, 9) = LET_IN
+                worthOf(3) = 2
+                fetch(4, 999, 999, 9) = LET_IN
+                worthOf(4) = 1000
+                fetch(5, 998, 997, 9) = LET_IN
+                worthOf(5) = 998
+                """);
+        checks.script("promise 13, worthOf: the whole quotient is rounded, not a part of it", """
+                fetch(0, 7, 1, 9) = LET_IN
+                worthOf(0) = 142
+                fetch(0, 7, 1, 9) = HIT
+                worthOf(0) = 285
+                fetch(0, 7, 1, 9) = HIT
+                worthOf(0) = 428
+                fetch(0, 7, 3, 9) = HIT
+                worthOf(0) = 1714
+                """);
+        checks.script("promise 13, worthOf: above a clock, too", """
+                fetch(0, 30, 2, 9) = LET_IN
+                fetch(1, 90, 1, 9) = LET_IN
+                clock() = 66
+                worthOf(1) = 77
+                fetch(1, 90, 1, 9) = HIT
+                worthOf(1) = 88
+                """);
+        checks.script("promise 13, worthOf: of a price of 0 it is the clock", """
+                fetch(0, 10, 0, 9) = LET_IN
+                worthOf(0) = 0
+                fetch(1, 95, 5, 9) = LET_IN
+                fetch(2, 95, 0, 9) = LET_IN
+                clock() = 52
+                worthOf(2) = 52
+                fetch(2, 95, 0, 9) = HIT
+                worthOf(2) = 52
+                """);
+        checks.script("promise 13, worthOf: the greatest of one fetch: size 1, price 1000", """
+                fetch(0, 1, 1000, 9) = LET_IN
+                worthOf(0) = 1000000
+                """);
+        checks.script("promise 13, worthOf: after as many calls as an object is used for", """
+                fetch(0, 1, 1000, 9) = LET_IN
+                510 x fetch(0, 1, 1000, 9) = HIT
+                worthOf(0) = 511000000
+                """);
+    }
+
+    private static void worthStays(Checks checks) {
+        checks.script("promise 13, worthOf: it stays until the next hit, whatever the clock is", """
+                fetch(0, 40, 2, 20) = LET_IN
+                fetch(1, 60, 9, 20) = LET_IN
+                fetch(2, 40, 9, 20) = LET_IN
+                clock() = 50
+                worthOf(1) = 150
+                worthOf(2) = 275
+                pin(1, true) = false
+                pass(20) = 20
+                worthOf(1) = 150
+                """);
+        checks.script("promise 13, worthOf: NONE in an empty cache", """
+                all: worthOf(#) = NONE
+                """);
+        checks.script("promise 13, worthOf: NONE when the entry is gone", """
+                fetch(0, 60, 1, 5) = LET_IN
+                fetch(1, 60, 1, 5) = LET_IN
+                worthOf(0) = NONE
+                drop(1) = 60
+                worthOf(1) = NONE
+                fetch(2, 101, 1, 5) = KEPT_OUT
+                worthOf(2) = NONE
+                """);
     }
 
     private static void endOf(Checks checks) {
-        WorthCache cache = new WorthCache();
-        cache.pass(10000);
-        cache.fetch(31, 10, 1, 10000);
-        checks.due("endOf(31)", cache.endOf(31), 20000);
-        cache.pass(10000);
-        checks.due("endOf(31), over", cache.endOf(31), 20000);
-        cache.purge();
-        checks.due("endOf(31), gone", cache.endOf(31), NONE);
+        checks.script("promise 14, endOf: NONE in an empty cache", """
+                all: endOf(#) = NONE
+                """);
+        checks.script("promise 14, endOf: the time and the lifetime, over or not", """
+                pass(10000) = 10000
+                fetch(0, 10, 1, 1) = LET_IN
+                fetch(31, 10, 1, 10000) = LET_IN
+                endOf(0) = 10001
+                endOf(31) = 20000
+                pass(10000) = 20000
+                endOf(0) = 10001
+                endOf(31) = 20000
+                """);
+        checks.script("promise 14, endOf: after as many calls as an object is used for", """
+                510 x pass(10000)
+                fetch(0, 10, 1, 10000) = LET_IN
+                endOf(0) = 5110000
+                """);
+        checks.script("promise 14, endOf: NONE when the entry is gone", """
+                fetch(0, 60, 1, 5) = LET_IN
+                fetch(1, 60, 1, 5) = LET_IN
+                endOf(0) = NONE
+                pass(5) = 5
+                purge() = 1
+                endOf(1) = NONE
+                """);
     }
 
     private static void leaving(Checks checks) {
-        WorthCache cache = Checks.fullOfAll();
-        for (int place = 0; place < 32; place++) {
-            checks.due("leaving", cache.leaving(place), place);
-        }
-        cache.pin(0, true);
-        cache.pin(10, true);
-        checks.due("leaving(0)", cache.leaving(0), 1);
-        checks.due("leaving(8)", cache.leaving(8), 9);
-        checks.due("leaving(9)", cache.leaving(9), 11);
-        checks.due("leaving(29)", cache.leaving(29), 31);
-        cache.pass(1000);
-        checks.due("leaving(0), over", cache.leaving(0), 1);
-        checks.due("leaving(29), over", cache.leaving(29), 31);
+        checks.script("promise 15, leaving: place 0 is the first, and as many places as entries, in a full cache", """
+                setCapacity(32) = 0
+                all: fetch(#, 1, #, 9) = LET_IN
+                all: leaving(#) = #
+                leaving(32) = throws.IndexOutOfBoundsException
+                """);
+        checks.script("promise 15, leaving: no place in an empty cache", """
+                all: leaving(#) = throws.IndexOutOfBoundsException
+                """);
+        checks.script("promise 15, leaving: the last place, and the one behind it", """
+                fetch(5, 10, 1, 9) = LET_IN
+                leaving(0) = 5
+                leaving(1) = throws.IndexOutOfBoundsException
+                fetch(3, 10, 0, 9) = LET_IN
+                leaving(0) = 3
+                leaving(1) = 5
+                leaving(2) = throws.IndexOutOfBoundsException
+                """);
+        checks.script("promise 15, leaving: pinned entries are not in the order", """
+                fetch(0, 10, 0, 9) = LET_IN
+                fetch(1, 10, 1, 9) = LET_IN
+                fetch(2, 10, 2, 9) = LET_IN
+                pin(1, true) = false
+                leaving(0) = 0
+                leaving(1) = 2
+                leaving(2) = throws.IndexOutOfBoundsException
+                pin(0, true) = false
+                leaving(0) = 2
+                leaving(1) = throws.IndexOutOfBoundsException
+                pin(2, true) = false
+                leaving(0) = throws.IndexOutOfBoundsException
+                pin(1, false) = true
+                leaving(0) = 1
+                """);
+        checks.script("promise 15, leaving: entries that are over are in the order, as before", """
+                fetch(0, 10, 2, 5) = LET_IN
+                fetch(1, 10, 1, 9) = LET_IN
+                fetch(2, 10, 0, 5) = LET_IN
+                pass(5) = 5
+                leaving(0) = 2
+                leaving(1) = 1
+                leaving(2) = 0
+                """);
+        checks.script("promise 15, leaving: by it entries leave", """
+                setCapacity(50) = 0
+                fetch(0, 10, 3, 9) = LET_IN
+                fetch(1, 10, 1, 9) = LET_IN
+                fetch(2, 10, 2, 9) = LET_IN
+                leaving(0) = 1
+                leaving(1) = 2
+                setCapacity(20) = 1
+                has(1) = false
+                setCapacity(10) = 1
+                has(2) = false
+                """);
     }
 
-    private static void leavingRefused(Checks checks) {
-        WorthCache cache = Checks.fullOfAll();
-        WorthCache none = new WorthCache();
-        WorthCache pinned = new WorthCache();
-        pinned.fetch(0, 1, 1, 5);
-        pinned.fetch(1, 1, 1, 5);
-        pinned.pin(0, true);
-        Class<IndexOutOfBoundsException> due = IndexOutOfBoundsException.class;
-        int[] wrong = {-1, 32, Integer.MIN_VALUE, Integer.MAX_VALUE};
-        for (int place : wrong) {
-            checks.refused(cache, due, "leaving(" + place + ")", () -> cache.leaving(place));
-            checks.refused(none, due, "leaving(" + place + "), empty", () -> none.leaving(place));
-        }
-        checks.refused(none, due, "leaving(0), empty", () -> none.leaving(0));
-        checks.due("leaving(0)", pinned.leaving(0), 1);
-        checks.refused(pinned, due, "leaving(1)", () -> pinned.leaving(1));
-        pinned.pin(1, true);
-        checks.refused(pinned, due, "leaving(0), all pinned", () -> pinned.leaving(0));
+    private static void orderOfWorth(Checks checks) {
+        checks.script("promise 15, leaving: the least worth comes first", """
+                fetch(0, 1, 2, 9) = LET_IN
+                fetch(1, 10, 20, 9) = LET_IN
+                fetch(2, 13, 26, 9) = LET_IN
+                fetch(3, 30, 59, 9) = LET_IN
+                worthOf(2) = 2000
+                worthOf(3) = 1966
+                leaving(0) = 3
+                leaving(1) = 0
+                leaving(2) = 1
+                leaving(3) = 2
+                """);
+        checks.script("promise 15, leaving: a hit moves an entry by its new worth, up or down", """
+                fetch(0, 10, 1, 9) = LET_IN
+                fetch(1, 10, 2, 9) = LET_IN
+                fetch(2, 10, 3, 9) = LET_IN
+                fetch(0, 10, 2, 9) = HIT
+                leaving(0) = 1
+                leaving(1) = 2
+                leaving(2) = 0
+                fetch(2, 10, 0, 9) = HIT
+                leaving(0) = 2
+                leaving(1) = 1
+                leaving(2) = 0
+                """);
+        checks.script("promise 15, leaving: the clock in a worth counts", """
+                fetch(0, 40, 4, 9) = LET_IN
+                fetch(1, 60, 9, 9) = LET_IN
+                fetch(2, 40, 4, 9) = LET_IN
+                worthOf(1) = 150
+                worthOf(2) = 200
+                leaving(0) = 1
+                leaving(1) = 2
+                """);
+        checks.script("promise 15, leaving: a worth that differs by 1 alone", """
+                setCapacity(3000) = 0
+                fetch(0, 500, 1, 9) = LET_IN
+                fetch(1, 1000, 1, 9) = LET_IN
+                fetch(2, 334, 1, 9) = LET_IN
+                leaving(0) = 1
+                leaving(1) = 0
+                leaving(2) = 2
+                """);
+    }
+
+    private static void orderOfTheSameWorth(Checks checks) {
+        checks.script("promise 15, leaving: of the same worth the one let in the longest ago, at one time", """
+                fetch(9, 10, 0, 9) = LET_IN
+                fetch(3, 20, 0, 5) = LET_IN
+                fetch(31, 30, 0, 9) = LET_IN
+                fetch(0, 40, 0, 9) = LET_IN
+                leaving(0) = 9
+                leaving(1) = 3
+                leaving(2) = 31
+                leaving(3) = 0
+                """);
+        checks.script("promise 15, leaving: of the same worth, of other sizes, prices and frequencies", """
+                fetch(5, 20, 1, 9) = LET_IN
+                fetch(4, 10, 1, 9) = LET_IN
+                fetch(3, 30, 3, 9) = LET_IN
+                fetch(5, 20, 1, 9) = HIT
+                worthOf(5) = 100
+                leaving(0) = 4
+                leaving(1) = 3
+                leaving(2) = 5
+                """);
+        checks.script("promise 15, leaving: of the same worth, though the first has the greatest frequency", """
+                fetch(5, 20, 1, 9) = LET_IN
+                fetch(5, 20, 1, 9) = HIT
+                fetch(4, 10, 1, 9) = LET_IN
+                fetch(3, 30, 3, 9) = LET_IN
+                worthOf(5) = 100
+                leaving(0) = 5
+                leaving(1) = 4
+                leaving(2) = 3
+                """);
+        checks.script("promise 15, leaving: of the same worth the one hit the longest ago", """
+                fetch(0, 10, 0, 9) = LET_IN
+                fetch(1, 10, 0, 9) = LET_IN
+                fetch(2, 10, 0, 9) = LET_IN
+                fetch(0, 10, 0, 9) = HIT
+                fetch(1, 10, 0, 9) = HIT
+                leaving(0) = 2
+                leaving(1) = 0
+                leaving(2) = 1
+                pass(1) = 1
+                fetch(2, 10, 0, 9) = HIT
+                leaving(0) = 0
+                leaving(1) = 1
+                leaving(2) = 2
+                """);
+        checks.script("promise 15, leaving: of the same worth by an older clock and a newer", """
+                fetch(0, 10, 1, 9) = LET_IN
+                fetch(1, 90, 9, 9) = LET_IN
+                leaving(0) = 0
+                leaving(1) = 1
+                pin(0, true) = false
+                fetch(2, 90, 0, 9) = LET_IN
+                worthOf(2) = 100
+                pin(0, false) = true
+                leaving(0) = 0
+                leaving(1) = 2
+                """);
+        checks.script("promise 15, leaving: neither pin, pass nor another's removal is a use", """
+                fetch(0, 10, 0, 9) = LET_IN
+                fetch(1, 10, 0, 9) = LET_IN
+                fetch(2, 10, 0, 9) = LET_IN
+                pin(0, true) = false
+                pass(1) = 1
+                pin(0, false) = true
+                drop(2) = 10
+                leaving(0) = 0
+                leaving(1) = 1
+                """);
     }
 
     private static void placeOf(Checks checks) {
-        WorthCache cache = Checks.fullOfAll();
-        cache.pin(0, true);
-        cache.drop(2);
-        checks.due("placeOf(0), pinned", cache.placeOf(0), NONE);
-        checks.due("placeOf(1)", cache.placeOf(1), 0);
-        checks.due("placeOf(2), no entry", cache.placeOf(2), NONE);
-        checks.due("placeOf(3)", cache.placeOf(3), 1);
-        checks.due("placeOf(31)", cache.placeOf(31), 29);
-        cache.fetch(1, 1, 1000, 5);
-        checks.due("placeOf(1), hit", cache.placeOf(1), 29);
-        checks.due("placeOf(3)", cache.placeOf(3), 0);
-        cache.pass(1000);
-        checks.due("placeOf(3), over", cache.placeOf(3), 0);
-    }
-
-    private static void sameWorth(Checks checks) {
-        WorthCache cache = new WorthCache();
-        cache.fetch(3, 10, 0, 50);
-        cache.fetch(1, 20, 0, 50);
-        cache.fetch(2, 30, 0, 50);
-        checks.same("as let in", Checks.order(cache), " 3 1 2");
-        cache.fetch(3, 10, 0, 50);
-        checks.same("3 was hit", Checks.order(cache), " 1 2 3");
-        cache.pass(1);
-        cache.fetch(1, 21, 0, 50);
-        checks.same("1 was let in again", Checks.order(cache), " 2 3 1");
-        cache.pin(2, true);
-        cache.pin(2, false);
-        checks.same("2 was pinned for a while", Checks.order(cache), " 2 3 1");
-        checks.due("placeOf(2)", cache.placeOf(2), 0);
-        checks.due("placeOf(3)", cache.placeOf(3), 1);
-        checks.due("placeOf(1)", cache.placeOf(1), 2);
+        checks.script("promise 16, placeOf: NONE in an empty cache", """
+                all: placeOf(#) = NONE
+                """);
+        checks.script("promise 16, placeOf: the places of a full cache", """
+                setCapacity(32) = 0
+                all: fetch(#, 1, #, 9) = LET_IN
+                all: placeOf(#) = #
+                """);
+        checks.script("promise 16, placeOf: NONE when pinned, and the others are one place before", """
+                fetch(0, 10, 0, 9) = LET_IN
+                fetch(1, 10, 1, 9) = LET_IN
+                fetch(2, 10, 2, 9) = LET_IN
+                pin(1, true) = false
+                placeOf(0) = 0
+                placeOf(1) = NONE
+                placeOf(2) = 1
+                pin(1, false) = true
+                placeOf(1) = 1
+                placeOf(2) = 2
+                """);
+        checks.script("promise 16, placeOf: NONE when the entry is gone", """
+                fetch(0, 60, 1, 9) = LET_IN
+                fetch(1, 60, 1, 9) = LET_IN
+                placeOf(0) = NONE
+                placeOf(1) = 0
+                drop(1) = 60
+                placeOf(1) = NONE
+                """);
+        checks.script("promise 16, placeOf: of entries that are over, too", """
+                fetch(0, 10, 1, 9) = LET_IN
+                fetch(1, 10, 0, 5) = LET_IN
+                pass(5) = 5
+                placeOf(0) = 1
+                placeOf(1) = 0
+                """);
+        checks.script("promise 16, placeOf: of the same worth, and after a hit", """
+                fetch(9, 10, 0, 9) = LET_IN
+                fetch(3, 20, 0, 9) = LET_IN
+                fetch(5, 20, 0, 9) = LET_IN
+                placeOf(9) = 0
+                placeOf(3) = 1
+                placeOf(5) = 2
+                fetch(9, 10, 0, 9) = HIT
+                placeOf(9) = 2
+                placeOf(3) = 0
+                placeOf(5) = 1
+                """);
     }
 
     private static void endsFirst(Checks checks) {
-        WorthCache cache = new WorthCache();
-        checks.due("endsFirst(), empty", cache.endsFirst(), NONE);
-        cache.fetch(31, 10, 1, 9);
-        checks.due("endsFirst()", cache.endsFirst(), 31);
-        cache.fetch(20, 10, 1, 10);
-        checks.due("endsFirst()", cache.endsFirst(), 31);
-        cache.fetch(21, 10, 1, 9);
-        checks.due("endsFirst(), two at 9", cache.endsFirst(), 21);
-        cache.fetch(22, 10, 1, 9);
-        checks.due("endsFirst(), three at 9", cache.endsFirst(), 21);
-        cache.fetch(30, 10, 1, 8);
-        cache.pin(30, true);
-        cache.pass(8);
-        checks.due("endsFirst(), over and pinned", cache.endsFirst(), 30);
-        cache.fetch(0, 10, 1, 1);
-        checks.due("endsFirst()", cache.endsFirst(), 30);
-        cache.drop(30);
-        checks.due("endsFirst(), four at 9", cache.endsFirst(), 0);
+        checks.script("promise 17, endsFirst: NONE in an empty cache", """
+                endsFirst() = NONE
+                fetch(0, 10, 1, 9) = LET_IN
+                drop(0) = 10
+                endsFirst() = NONE
+                """);
+        checks.script("promise 17, endsFirst: the one that ends first, by one", """
+                fetch(1, 10, 1, 10) = LET_IN
+                endsFirst() = 1
+                fetch(2, 10, 1, 9) = LET_IN
+                endsFirst() = 2
+                fetch(0, 10, 1, 10) = LET_IN
+                endsFirst() = 2
+                """);
+        checks.script("promise 17, endsFirst: of several the lowest", """
+                fetch(31, 10, 1, 9) = LET_IN
+                endsFirst() = 31
+                fetch(20, 10, 1, 9) = LET_IN
+                endsFirst() = 20
+                fetch(21, 10, 1, 9) = LET_IN
+                endsFirst() = 20
+                pass(4) = 4
+                fetch(0, 10, 1, 5) = LET_IN
+                endsFirst() = 0
+                """);
+        checks.script("promise 17, endsFirst: of a full cache", """
+                setCapacity(32) = 0
+                all: fetch(#, 1, 1, 9) = LET_IN
+                endsFirst() = 0
+                drop(0) = 1
+                endsFirst() = 1
+                drop(31) = 1
+                fetch(31, 1, 1, 8) = LET_IN
+                endsFirst() = 31
+                """);
+        checks.script("promise 17, endsFirst: over or not, pinned or not", """
+                fetch(0, 10, 1, 9) = LET_IN
+                fetch(1, 10, 1, 5) = LET_IN
+                fetch(2, 10, 1, 4) = LET_IN
+                pin(2, true) = false
+                endsFirst() = 2
+                pass(5) = 5
+                endsFirst() = 2
+                drop(2) = 10
+                endsFirst() = 1
+                purge() = 1
+                endsFirst() = 0
+                """);
     }
 
-    private static void wouldLeave(Checks checks) {
-        WorthCache cache = Checks.fullOfAll();
-        cache.setCapacity(35);
-        String before = Checks.state(cache);
-        checks.due("wouldLeave(1)", cache.wouldLeave(1), 0);
-        checks.due("wouldLeave(3)", cache.wouldLeave(3), 0);
-        checks.due("wouldLeave(4)", cache.wouldLeave(4), 1);
-        checks.due("wouldLeave(34)", cache.wouldLeave(34), 31);
-        checks.due("wouldLeave(35)", cache.wouldLeave(35), 32);
-        checks.due("wouldLeave(36)", cache.wouldLeave(36), NONE);
-        checks.due("wouldLeave(1000)", cache.wouldLeave(1000), NONE);
-        checks.same("the cache", Checks.state(cache), before);
-        WorthCache none = new WorthCache();
-        checks.due("wouldLeave(100), empty", none.wouldLeave(100), 0);
-        checks.due("wouldLeave(101), empty", none.wouldLeave(101), NONE);
-        none.setCapacity(1000);
-        checks.due("wouldLeave(1000), empty", none.wouldLeave(1000), 0);
+    private static void wouldLeaveRoom(Checks checks) {
+        checks.script("promise 18, wouldLeave: size 1, the least, and 1000, the greatest", """
+                setCapacity(1000) = 0
+                wouldLeave(1) = 0
+                wouldLeave(1000) = 0
+                fetch(0, 1, 1, 9) = LET_IN
+                wouldLeave(999) = 0
+                wouldLeave(1000) = 1
+                """);
+        checks.script("promise 18, wouldLeave: NONE if the size is above the capacity, not at it", """
+                wouldLeave(100) = 0
+                wouldLeave(101) = NONE
+                wouldLeave(1000) = NONE
+                setCapacity(999) = 0
+                wouldLeave(999) = 0
+                wouldLeave(1000) = NONE
+                setCapacity(1) = 0
+                wouldLeave(1) = 0
+                wouldLeave(2) = NONE
+                """);
+        checks.script("promise 18, wouldLeave: as long as there is not enough room, in a full cache", """
+                setCapacity(32) = 0
+                all: fetch(#, 1, #, 9) = LET_IN
+                wouldLeave(1) = 1
+                wouldLeave(2) = 2
+                wouldLeave(31) = 31
+                wouldLeave(32) = 32
+                wouldLeave(33) = NONE
+                """);
+        checks.script("promise 18, wouldLeave: none where the sizes, added, are at the capacity", """
+                fetch(0, 60, 1, 9) = LET_IN
+                fetch(1, 30, 0, 9) = LET_IN
+                wouldLeave(10) = 0
+                wouldLeave(11) = 1
+                wouldLeave(40) = 1
+                wouldLeave(41) = 2
+                wouldLeave(100) = 2
+                """);
+    }
+
+    private static void wouldLeaveOver(Checks checks) {
+        checks.script("promise 18, wouldLeave: what is over makes room by step 4, and is not counted", """
+                fetch(0, 40, 0, 5) = LET_IN
+                fetch(1, 30, 1, 9) = LET_IN
+                fetch(2, 30, 2, 9) = LET_IN
+                pass(4) = 4
+                wouldLeave(1) = 1
+                wouldLeave(40) = 1
+                wouldLeave(41) = 2
+                wouldLeave(71) = 3
+                pass(1) = 5
+                wouldLeave(1) = 0
+                wouldLeave(40) = 0
+                wouldLeave(41) = 1
+                wouldLeave(70) = 1
+                wouldLeave(71) = 2
+                wouldLeave(100) = 2
+                """);
+        checks.script("promise 18, wouldLeave: what is over behind others in the order makes room first, too", """
+                fetch(0, 40, 0, 9) = LET_IN
+                fetch(1, 30, 9, 5) = LET_IN
+                fetch(2, 30, 5, 9) = LET_IN
+                pass(5) = 5
+                wouldLeave(30) = 0
+                wouldLeave(31) = 1
+                wouldLeave(70) = 1
+                wouldLeave(71) = 2
+                """);
+        checks.script("promise 18, wouldLeave: of a cache that is over as a whole", """
+                setCapacity(32) = 0
+                all: fetch(#, 1, 1, 5) = LET_IN
+                pin(9, true) = false
+                pass(5) = 5
+                wouldLeave(1) = 0
+                wouldLeave(32) = 0
+                wouldLeave(33) = NONE
+                pass(1) = 6
+                wouldLeave(32) = 0
+                """);
     }
 
     private static void wouldLeavePinned(Checks checks) {
-        WorthCache cache = new WorthCache();
-        cache.fetch(0, 20, 0, 5);
-        cache.fetch(1, 20, 1, 50);
-        cache.fetch(2, 20, 0, 50);
-        cache.fetch(3, 20, 2, 5);
-        cache.fetch(4, 20, 3, 50);
-        cache.pin(2, true);
-        cache.pin(3, true);
-        checks.due("wouldLeave(60) at 0", cache.wouldLeave(60), 3);
-        checks.due("wouldLeave(61) at 0", cache.wouldLeave(61), NONE);
-        cache.pass(5);
-        String before = Checks.state(cache);
-        checks.due("wouldLeave(40)", cache.wouldLeave(40), 0);
-        checks.due("wouldLeave(41)", cache.wouldLeave(41), 1);
-        checks.due("wouldLeave(60)", cache.wouldLeave(60), 1);
-        checks.due("wouldLeave(61)", cache.wouldLeave(61), 2);
-        checks.due("wouldLeave(80)", cache.wouldLeave(80), 2);
-        checks.due("wouldLeave(81)", cache.wouldLeave(81), NONE);
-        checks.same("the cache", Checks.state(cache), before);
-        checks.due("fetch(5, 61, 1, 5)", cache.fetch(5, 61, 1, 5), WorthCache.LET_IN);
-        checks.due("left()", cache.left(), 2);
+        checks.script("promise 18, wouldLeave: NONE one above what the pinned entries leave room for", """
+                fetch(0, 60, 0, 9) = LET_IN
+                fetch(1, 20, 0, 9) = LET_IN
+                fetch(2, 20, 0, 9) = LET_IN
+                pin(0, true) = false
+                wouldLeave(40) = 2
+                wouldLeave(41) = NONE
+                pin(1, true) = false
+                wouldLeave(20) = 1
+                wouldLeave(21) = NONE
+                pin(2, true) = false
+                wouldLeave(1) = NONE
+                """);
+        checks.script("promise 18, wouldLeave: a pinned entry just before its end stands in the way, at it not", """
+                fetch(0, 60, 0, 5) = LET_IN
+                fetch(1, 40, 0, 9) = LET_IN
+                pin(0, true) = false
+                pass(4) = 4
+                wouldLeave(40) = 1
+                wouldLeave(41) = NONE
+                pass(1) = 5
+                wouldLeave(60) = 0
+                wouldLeave(61) = 1
+                wouldLeave(100) = 1
+                """);
+        checks.script("promise 18, wouldLeave: a pinned entry is not in the order", """
+                fetch(0, 50, 0, 9) = LET_IN
+                fetch(1, 25, 9, 9) = LET_IN
+                fetch(2, 25, 9, 9) = LET_IN
+                pin(0, true) = false
+                wouldLeave(25) = 1
+                wouldLeave(26) = 2
+                """);
     }
 
-    private static void wouldLeaveThreshold(Checks checks) {
-        WorthCache cache = new WorthCache();
-        cache.setThreshold(1);
-        checks.due("wouldLeave(50)", cache.wouldLeave(50), 0);
-        checks.due("fetch(0, 50, 1, 5)", cache.fetch(0, 50, 1, 5), WorthCache.KEPT_OUT);
-    }
-
-    private static void wouldLeaveRefused(Checks checks) {
-        WorthCache cache = Checks.fullOfAll();
-        int[] wrong = {0, 1001, -1, Integer.MIN_VALUE, Integer.MAX_VALUE};
-        for (int size : wrong) {
-            String name = "wouldLeave(" + size + ")";
-            checks.refused(cache, IllegalArgumentException.class, name, () -> cache.wouldLeave(size));
-        }
+    private static void wouldLeaveAsFetch(Checks checks) {
+        checks.script("promise 18, wouldLeave: it asks nothing of the threshold, as steps 4 and 5 do not", """
+                setThreshold(1) = 1000
+                wouldLeave(50) = 0
+                fetch(0, 50, 1, 9) = KEPT_OUT
+                wouldLeave(100) = 0
+                """);
+        checks.script("promise 18, wouldLeave: it changes nothing, and a fetch does what it told", """
+                fetch(0, 50, 1, 5) = LET_IN
+                fetch(1, 30, 1, 9) = LET_IN
+                fetch(2, 20, 2, 9) = LET_IN
+                pass(5) = 5
+                wouldLeave(51) = 1
+                entries() = 3
+                used() = 100
+                clock() = 0
+                left() = 0
+                removedOver() = 0
+                misses() = 3
+                leaving(0) = 0
+                fetch(3, 51, 1, 9) = LET_IN
+                left() = 1
+                removedOver() = 1
+                has(1) = false
+                """);
     }
 }

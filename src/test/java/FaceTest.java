@@ -40,10 +40,10 @@ final class FaceTest {
     };
 
     static void run(Checks checks) {
-        checks.test("face: constants", () -> constants(checks));
-        checks.test("face: methods", () -> methods(checks));
-        checks.test("face: nothing else is visible", () -> nothingElse(checks));
-        checks.test("promise 1: a new object is empty", () -> newObject(checks));
+        checks.test("the public face: constants", () -> constants(checks));
+        checks.test("the public face: methods", () -> methods(checks));
+        checks.test("the public face: nothing else is visible", () -> nothingElse(checks));
+        newObject(checks);
         checks.test("promise 1: objects share nothing", () -> twoObjects(checks));
     }
 
@@ -99,20 +99,56 @@ final class FaceTest {
     }
 
     private static void newObject(Checks checks) {
-        WorthCache cache = new WorthCache();
-        checks.same("a new cache", Checks.state(cache), "time 0 clock 0 capacity 100 entries 0 used 0"
-                + " hits 0 misses 0 bytesHit 0 saved 0 paid 0 left 0 removedOver 0 endsFirst -1");
-        checks.due("setThreshold(1000)", cache.setThreshold(1000), 1000);
+        checks.script("promise 1: a new object has no entries", """
+                all: has(#) = false
+                all: isOver(#) = false
+                all: sizeOf(#) = 0
+                all: frequencyOf(#) = 0
+                all: worthOf(#) = NONE
+                all: endOf(#) = NONE
+                all: placeOf(#) = NONE
+                all: leaving(#) = throws.IndexOutOfBoundsException
+                endsFirst() = NONE
+                entries() = 0
+                used() = 0
+                purge() = 0
+                """);
+        checks.script("promise 1: a new object's accounts are 0", """
+                time() = 0
+                clock() = 0
+                hits() = 0
+                misses() = 0
+                bytesHit() = 0
+                saved() = 0
+                paid() = 0
+                left() = 0
+                removedOver() = 0
+                """);
+        checks.script("promise 1: a new object has a capacity of 100 and a threshold of 1000", """
+                capacity() = 100
+                wouldLeave(100) = 0
+                wouldLeave(101) = NONE
+                setThreshold(1) = 1000
+                """);
     }
 
     private static void twoObjects(Checks checks) {
         WorthCache one = new WorthCache();
         WorthCache other = new WorthCache();
-        String empty = Checks.state(other);
-        one.fetch(0, 10, 5, 10);
+        one.setCapacity(200);
+        one.fetch(0, 150, 5, 10);
+        one.fetch(0, 150, 5, 10);
+        one.fetch(1, 60, 5, 10);
         one.pass(3);
         one.setThreshold(5);
-        checks.same("the other cache", Checks.state(other), empty);
+        checks.due("has(1)", other.has(1), false);
+        checks.due("time()", other.time(), 0);
+        checks.due("clock()", other.clock(), 0);
+        checks.due("capacity()", other.capacity(), 100);
+        checks.due("hits()", other.hits(), 0);
+        checks.due("misses()", other.misses(), 0);
+        checks.due("left()", other.left(), 0);
         checks.due("setThreshold(7)", other.setThreshold(7), 1000);
+        checks.due("fetch(0, 8, 1, 5)", other.fetch(0, 8, 1, 5), WorthCache.KEPT_OUT);
     }
 }

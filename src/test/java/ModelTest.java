@@ -1,6 +1,8 @@
-/** Long mixed runs, in which the class must answer as the plain model does. */
+import java.util.function.Supplier;
+
+/** Long mixed runs, in which the class must answer each call as the plain model does. */
 final class ModelTest {
-    private static final int RUNS = 600;
+    private static final int RUNS = 3000;
     private static final int CALLS = 512;
 
     private final Checks checks;
@@ -24,16 +26,24 @@ final class ModelTest {
     static void run(Checks checks) {
         for (int run = 0; run < RUNS; run++) {
             ModelTest test = new ModelTest(checks, run);
-            checks.test("mixed run " + run, test::runCalls);
+            checks.test("promises 1 to 30: mixed run " + run, test::runCalls);
         }
     }
 
     private void runCalls() {
-        if (mostSize == 1000) {
-            compare("setCapacity(3000)", () -> cache.setCapacity(3000), () -> model.setCapacity(3000));
-        }
+        int first = mostSize == 1000 ? 3000 : 100;
+        compare("setCapacity(" + first + ")", () -> cache.setCapacity(first), () -> model.setCapacity(first));
         for (int i = 1; i < CALLS; i++) {
-            oneCall();
+            int kind = pick(100);
+            if (kind < 35) {
+                fetch();
+            } else if (kind < 60) {
+                happen(kind - 35);
+            } else if (kind < 85) {
+                askOfOne(pick(10));
+            } else {
+                ask(pick(13));
+            }
         }
     }
 
@@ -58,37 +68,12 @@ final class ModelTest {
         return kind == 3 ? least : least + pick(Math.min(usualMost, most) - least + 1);
     }
 
-    private void oneCall() {
-        int kind = pick(100);
-        int thing = pickWithin(0, things - 1, 31);
-        if (kind < 55) {
-            fetch(thing);
-        } else if (kind < 67) {
-            int ticks = pickWithin(1, 1 + mostLifetime / 8, kind == 66 ? 10000 : 60);
-            compare("pass(" + ticks + ")", () -> cache.pass(ticks), () -> model.pass(ticks));
-        } else if (kind < 77) {
-            boolean to = pick(5) < 2;
-            compare("pin(" + thing + ", " + to + ")", () -> cache.pin(thing, to), () -> model.pin(thing, to));
-        } else if (kind < 80) {
-            compare("drop(" + thing + ")", () -> cache.drop(thing), () -> model.drop(thing));
-        } else if (kind < 82) {
-            compare("purge()", cache::purge, model::purge);
-        } else if (kind < 86) {
-            int to = pickWithin(1, mostSize * 3, 10000);
-            compare("setCapacity(" + to + ")", () -> cache.setCapacity(to), () -> model.setCapacity(to));
-        } else if (kind < 90) {
-            int to = pickWithin(1, mostSize, 1000);
-            compare("setThreshold(" + to + ")", () -> cache.setThreshold(to), () -> model.setThreshold(to));
-        } else if (kind < 96) {
-            int size = pickWithin(1, mostSize, 1000);
-            compare("wouldLeave(" + size + ")", () -> cache.wouldLeave(size), () -> model.wouldLeave(size));
-        } else {
-            int place = pickWithin(0, 8, 31);
-            compare("leaving(" + place + ")", () -> cache.leaving(place), () -> model.leaving(place));
-        }
+    private int pickThing() {
+        return pickWithin(0, things - 1, 31);
     }
 
-    private void fetch(int thing) {
+    private void fetch() {
+        int thing = pickThing();
         int size = pick(3) > 0 && thing >= 0 ? 1 + thing * 7 % mostSize : pickWithin(1, mostSize, 1000);
         int price = pickWithin(0, mostPrice, 1000);
         int lifetime = pickWithin(1, mostLifetime, 10000);
@@ -97,8 +82,78 @@ final class ModelTest {
                 () -> model.fetch(thing, size, price, lifetime));
     }
 
-    private void compare(String name, Checks.Call ours, Checks.Call theirs) {
-        checks.same("the answer of " + name, Checks.outcome(ours), Checks.outcome(theirs));
-        checks.same("the cache after " + name, Checks.state(cache), model.state());
+    private void happen(int kind) {
+        int thing = pickThing();
+        if (kind < 9) {
+            int ticks = pickWithin(1, 1 + mostLifetime / 8, kind == 0 ? 10000 : 60);
+            compare("pass(" + ticks + ")", () -> cache.pass(ticks), () -> model.pass(ticks));
+        } else if (kind < 16) {
+            boolean to = pick(5) < 2;
+            compare("pin(" + thing + ", " + to + ")", () -> cache.pin(thing, to), () -> model.pin(thing, to));
+        } else if (kind < 18) {
+            compare("drop(" + thing + ")", () -> cache.drop(thing), () -> model.drop(thing));
+        } else if (kind < 19) {
+            compare("purge()", cache::purge, model::purge);
+        } else if (kind < 22) {
+            int to = pickWithin(1, mostSize * 3, 10000);
+            compare("setCapacity(" + to + ")", () -> cache.setCapacity(to), () -> model.setCapacity(to));
+        } else {
+            int to = pickWithin(1, mostSize, 1000);
+            compare("setThreshold(" + to + ")", () -> cache.setThreshold(to), () -> model.setThreshold(to));
+        }
+    }
+
+    private void askOfOne(int kind) {
+        int thing = pickThing();
+        String of = "(" + thing + ")";
+        switch (kind) {
+            case 0: compare("has" + of, () -> cache.has(thing), () -> model.has(thing)); break;
+            case 1: compare("isOver" + of, () -> cache.isOver(thing), () -> model.isOver(thing)); break;
+            case 2: compare("sizeOf" + of, () -> cache.sizeOf(thing), () -> model.sizeOf(thing)); break;
+            case 3: compare("frequencyOf" + of, () -> cache.frequencyOf(thing), () -> model.frequencyOf(thing)); break;
+            case 4: compare("worthOf" + of, () -> cache.worthOf(thing), () -> model.worthOf(thing)); break;
+            case 5: compare("endOf" + of, () -> cache.endOf(thing), () -> model.endOf(thing)); break;
+            case 6: compare("placeOf" + of, () -> cache.placeOf(thing), () -> model.placeOf(thing)); break;
+            case 7: leaving(pickWithin(0, 8, 31)); break;
+            default: wouldLeave(pickWithin(1, mostSize, 1000)); break;
+        }
+    }
+
+    private void leaving(int place) {
+        compare("leaving(" + place + ")", () -> cache.leaving(place), () -> model.leaving(place));
+    }
+
+    private void wouldLeave(int size) {
+        compare("wouldLeave(" + size + ")", () -> cache.wouldLeave(size), () -> model.wouldLeave(size));
+    }
+
+    private void ask(int kind) {
+        switch (kind) {
+            case 0: compare("endsFirst()", cache::endsFirst, model::endsFirst); break;
+            case 1: compare("time()", cache::time, () -> model.time); break;
+            case 2: compare("clock()", cache::clock, () -> model.clock); break;
+            case 3: compare("capacity()", cache::capacity, () -> model.capacity); break;
+            case 4: compare("entries()", cache::entries, model.entries::size); break;
+            case 5: compare("used()", cache::used, () -> PlainModel.sum(model.entries)); break;
+            case 6: compare("hits()", cache::hits, () -> model.hits); break;
+            case 7: compare("misses()", cache::misses, () -> model.misses); break;
+            case 8: compare("bytesHit()", cache::bytesHit, () -> model.bytesHit); break;
+            case 9: compare("saved()", cache::saved, () -> model.saved); break;
+            case 10: compare("paid()", cache::paid, () -> model.paid); break;
+            case 11: compare("left()", cache::left, () -> model.left); break;
+            default: compare("removedOver()", cache::removedOver, () -> model.removedOver); break;
+        }
+    }
+
+    private void compare(String name, Supplier<Object> ours, Supplier<Object> theirs) {
+        checks.same("the answer of " + name, outcome(ours), outcome(theirs));
+    }
+
+    private static String outcome(Supplier<Object> call) {
+        try {
+            return String.valueOf(call.get());
+        } catch (RuntimeException e) {
+            return "throws." + e.getClass().getSimpleName();
+        }
     }
 }

@@ -34,9 +34,8 @@ final class PlainModel {
     int removedOver;
 
     int fetch(int thing, int size, int price, int lifetime) {
-        checkThing(thing);
+        Entry old = found(thing);
         check(size >= 1 && size <= 1000 && price >= 0 && price <= 1000 && lifetime >= 1 && lifetime <= 10000);
-        Entry old = find(thing);
         if (old != null && time < old.end && old.size == size) {
             old.frequency++;
             old.price = price;
@@ -138,36 +137,49 @@ final class PlainModel {
         if (size > capacity) {
             return -1;
         }
-        if (copy.sum(entries) + size > capacity) {
+        if (sum(entries) + size > capacity) {
             copy.purge();
         }
-        return copy.sum(copy.pinned()) + size > capacity ? -1 : copy.shrink(capacity - size);
+        return sum(copy.pinned()) + size > capacity ? -1 : copy.shrink(capacity - size);
     }
 
-    String state() {
-        StringBuilder text = new StringBuilder();
-        List<Entry> order = order();
-        for (int thing = 0; thing < 32; thing++) {
-            Entry entry = find(thing);
-            if (entry != null) {
-                text.append(thing).append(": size ").append(entry.size);
-                text.append(" frequency ").append(entry.frequency).append(" worth ").append(entry.worth);
-                text.append(" end ").append(entry.end).append(" over ").append(time >= entry.end);
-                text.append(" place ").append(order.indexOf(entry)).append('\n');
-            }
-        }
-        text.append("time ").append(time).append(" clock ").append(clock);
-        text.append(" capacity ").append(capacity);
-        text.append(" entries ").append(entries.size()).append(" used ").append(sum(entries));
-        text.append(" hits ").append(hits).append(" misses ").append(misses);
-        text.append(" bytesHit ").append(bytesHit).append(" saved ").append(saved);
-        text.append(" paid ").append(paid).append(" left ").append(left);
-        text.append(" removedOver ").append(removedOver);
-        int first = entries.stream()
+    boolean has(int thing) {
+        return found(thing) != null;
+    }
+
+    boolean isOver(int thing) {
+        Entry entry = found(thing);
+        return entry != null && time >= entry.end;
+    }
+
+    int sizeOf(int thing) {
+        Entry entry = found(thing);
+        return entry == null ? 0 : entry.size;
+    }
+
+    int frequencyOf(int thing) {
+        Entry entry = found(thing);
+        return entry == null ? 0 : entry.frequency;
+    }
+
+    long worthOf(int thing) {
+        Entry entry = found(thing);
+        return entry == null ? -1 : entry.worth;
+    }
+
+    int endOf(int thing) {
+        Entry entry = found(thing);
+        return entry == null ? -1 : entry.end;
+    }
+
+    int placeOf(int thing) {
+        return order().indexOf(found(thing));
+    }
+
+    int endsFirst() {
+        return entries.stream()
                 .min(Comparator.<Entry>comparingInt(e -> e.end).thenComparingInt(e -> e.thing))
                 .map(e -> e.thing).orElse(-1);
-        text.append(" endsFirst ").append(first);
-        return text.toString();
     }
 
     private void touch(Entry entry) {
@@ -201,27 +213,23 @@ final class PlainModel {
         return count;
     }
 
-    private int sum(List<Entry> some) {
+    static int sum(List<Entry> some) {
         return some.stream().mapToInt(entry -> entry.size).sum();
     }
 
-    private Entry find(int thing) {
+    private Entry found(int thing) {
+        if (thing < 0 || thing > 31) {
+            throw new IndexOutOfBoundsException();
+        }
         return entries.stream().filter(entry -> entry.thing == thing).findFirst().orElse(null);
     }
 
     private Entry findOrRefuse(int thing) {
-        checkThing(thing);
-        Entry entry = find(thing);
+        Entry entry = found(thing);
         if (entry == null) {
             throw new IllegalStateException();
         }
         return entry;
-    }
-
-    private static void checkThing(int thing) {
-        if (thing < 0 || thing > 31) {
-            throw new IndexOutOfBoundsException();
-        }
     }
 
     private static void check(boolean holds) {
