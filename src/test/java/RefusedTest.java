@@ -30,9 +30,9 @@ final class RefusedTest {
 
     /**
      * At the time 51, a clock of 50, a capacity of 220 and a threshold of 40: things 0 and 1 are in
-     * and were hit, 2 is over, 3 is over and pinned, 4 is pinned, 5 and 6 have the same worth, 7 has
-     * left, 8 was dropped, 9 was removed because it was over, 10 was missed 51 ago and 11 50 ago,
-     * and kept out.
+     * and were hit, 2 is over, 3 is over and pinned, 4 is pinned, 5 and 6 are in, with the worth that
+     * 1 and 2 have, 7 has left, 8 was dropped, 9 was removed because it was over, 10 was missed 51 ago
+     * and 11 50 ago, and kept out.
      */
     private static final String MIXED = """
             fetch(7, 100, 5, 99)
@@ -102,6 +102,27 @@ final class RefusedTest {
             removedOver()
             """;
 
+    /** What is told above, as answers. */
+    private static final String TOLD = """
+            time() = 51
+            clock() = 50
+            isOver(2) = true
+            isOver(3) = true
+            isOver(4) = false
+            leaving(0) = 1
+            leaving(1) = 2
+            leaving(2) = 5
+            leaving(3) = 6
+            leaving(4) = 0
+            pin(3, true) = true
+            pin(4, true) = true
+            removedOver() = 1
+            left() = 1
+            fetch(10, 41, 1, 1) = KEPT_OUT
+            fetch(11, 41, 1, 1) = LET_IN
+            setThreshold(1) = 40
+            """;
+
     private static final String[] SETUPS = {EMPTY, FULL, PINNED, MIXED};
     private static final String[] NAMES = {"an empty cache", "a full cache", "a pinned cache", "a mixed cache"};
 
@@ -118,6 +139,7 @@ final class RefusedTest {
             always.check(checks, SETUPS[i], NAMES[i]);
             asking(checks, SETUPS[i], NAMES[i]);
         }
+        checks.script("promises 1 to 30: the mixed cache is as it is told", MIXED + TOLD);
         RefusedTest empty = new RefusedTest();
         empty.without(0, 31);
         empty.noPlace("-1", "0", "1", "31", "32", "MIN", "MAX");
@@ -225,6 +247,7 @@ final class RefusedTest {
     }
 
     private static void asking(Checks checks, String setup, String where) {
+        checks.script("promises 2 to 8: no call is refused on the way to " + where, setup);
         String acted = after(setup, "time()", ACTS);
         for (String question : QUESTIONS.strip().split("\n")) {
             checks.test("promises 9 to 30: no change in " + where + " by " + question,
