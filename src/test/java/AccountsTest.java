@@ -48,6 +48,23 @@ final class AccountsTest {
                 setCapacity(99) = 1
                 clock() = 100
                 """);
+        checks.script("promise 20, clock: it stays where the worth of what leaves is less", """
+                fetch(0, 10, 1, 9) = LET_IN
+                fetch(1, 20, 4, 9) = LET_IN
+                pin(0, true) = false
+                pin(1, true) = false
+                fetch(2, 70, 70, 9) = LET_IN
+                setCapacity(99) = 1
+                clock() = 1000
+                pin(0, false) = true
+                pin(1, false) = true
+                fetch(3, 70, 70, 9) = LET_IN
+                left() = 2
+                clock() = 1000
+                setCapacity(89) = 1
+                left() = 3
+                clock() = 1000
+                """);
         checks.script("promise 20, clock: neither by drop, nor by purge, nor by what is removed by fetch", """
                 fetch(0, 10, 9, 5) = LET_IN
                 fetch(1, 10, 9, 9) = LET_IN

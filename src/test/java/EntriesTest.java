@@ -89,15 +89,25 @@ final class EntriesTest {
         checks.script("promise 11, sizeOf: 0 in an empty cache", """
                 all: sizeOf(#) = 0
                 """);
-        checks.script("promise 11, sizeOf: the least and the greatest, over or not", """
+        checks.script("promise 11, sizeOf: the least and the greatest, over or not, pinned or not", """
                 setCapacity(1001) = 0
                 fetch(0, 1, 1, 5) = LET_IN
                 fetch(31, 1000, 1, 5) = LET_IN
                 sizeOf(0) = 1
                 sizeOf(31) = 1000
+                pin(0, true) = false
+                sizeOf(0) = 1
+                sizeOf(31) = 1000
                 pass(5) = 5
                 sizeOf(0) = 1
                 sizeOf(31) = 1000
+                """);
+        checks.script("promise 11, sizeOf: of the entry that the thing has now, and a hit leaves it", """
+                fetch(0, 60, 1, 5) = LET_IN
+                fetch(0, 30, 1, 5) = LET_IN
+                sizeOf(0) = 30
+                fetch(0, 30, 1, 5) = HIT
+                sizeOf(0) = 30
                 """);
         checks.script("promise 11, sizeOf: 0 when the entry is gone", """
                 fetch(0, 60, 1, 5) = LET_IN
@@ -121,6 +131,15 @@ final class EntriesTest {
                 frequencyOf(31) = 2
                 pass(5) = 5
                 frequencyOf(31) = 2
+                """);
+        checks.script("promise 12, frequencyOf: pinned or not", """
+                fetch(0, 10, 1, 5) = LET_IN
+                pin(0, true) = false
+                frequencyOf(0) = 1
+                fetch(0, 10, 1, 5) = HIT
+                frequencyOf(0) = 2
+                pin(0, false) = true
+                frequencyOf(0) = 2
                 """);
         checks.script("promise 12, frequencyOf: after as many calls as an object is used for", """
                 fetch(0, 10, 1, 5) = LET_IN
@@ -204,6 +223,16 @@ final class EntriesTest {
                 pass(20) = 20
                 worthOf(1) = 150
                 """);
+        checks.script("promise 13, worthOf: it stays though the clock goes above it, until the next hit", """
+                fetch(0, 10, 1, 9) = LET_IN
+                pin(0, true) = false
+                fetch(1, 90, 90, 9) = LET_IN
+                fetch(2, 90, 0, 9) = LET_IN
+                clock() = 1000
+                worthOf(0) = 100
+                fetch(0, 10, 1, 9) = HIT
+                worthOf(0) = 1200
+                """);
         checks.script("promise 13, worthOf: NONE in an empty cache", """
                 all: worthOf(#) = NONE
                 """);
@@ -231,6 +260,22 @@ final class EntriesTest {
                 pass(10000) = 20000
                 endOf(0) = 10001
                 endOf(31) = 20000
+                """);
+        checks.script("promise 14, endOf: at a hit the end stays, at a miss it is set", """
+                fetch(0, 10, 1, 20) = LET_IN
+                pass(3) = 3
+                fetch(0, 10, 1, 30) = HIT
+                fetch(0, 10, 1, 1) = HIT
+                endOf(0) = 20
+                fetch(0, 11, 1, 30) = LET_IN
+                endOf(0) = 33
+                """);
+        checks.script("promise 14, endOf: pinned or not", """
+                fetch(0, 10, 1, 5) = LET_IN
+                pin(0, true) = false
+                endOf(0) = 5
+                pass(5) = 5
+                endOf(0) = 5
                 """);
         checks.script("promise 14, endOf: after as many calls as an object is used for", """
                 510 x pass(10000)

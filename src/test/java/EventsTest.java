@@ -90,6 +90,24 @@ final class EventsTest {
                 leaving(0) = 0
                 leaving(1) = 1
                 """);
+        checks.script("promise 4, pin: an entry that was let in is not pinned, whatever the one before was", """
+                fetch(0, 10, 1, 5) = LET_IN
+                pin(0, true) = false
+                fetch(0, 11, 1, 5) = LET_IN
+                pin(0, true) = false
+                drop(0) = 11
+                fetch(0, 11, 1, 5) = LET_IN
+                pin(0, true) = false
+                pass(5) = 5
+                fetch(0, 11, 1, 5) = LET_IN
+                pin(0, false) = false
+                """);
+        checks.script("promise 4, pin: a hit does not unpin", """
+                fetch(0, 10, 1, 5) = LET_IN
+                pin(0, true) = false
+                fetch(0, 10, 1, 5) = HIT
+                pin(0, false) = true
+                """);
         checks.script("promise 4, pin: refused when the thing never had an entry, in an empty cache", """
                 all: pin(#, true) = throws.IllegalStateException
                 all: pin(#, false) = throws.IllegalStateException

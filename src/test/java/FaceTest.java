@@ -1,7 +1,10 @@
+import java.lang.reflect.Constructor;
 import java.lang.reflect.Field;
 import java.lang.reflect.Method;
 import java.lang.reflect.Modifier;
+import java.util.ArrayList;
 import java.util.HashSet;
+import java.util.List;
 import java.util.Set;
 import java.util.TreeSet;
 
@@ -41,6 +44,7 @@ final class FaceTest {
 
     static void run(Checks checks) {
         checks.test("the public face: constants", () -> constants(checks));
+        checks.test("the public face: the constructor", () -> constructor(checks));
         checks.test("the public face: methods", () -> methods(checks));
         checks.test("the public face: nothing else is visible", () -> nothingElse(checks));
         newObject(checks);
@@ -48,11 +52,29 @@ final class FaceTest {
     }
 
     private static void constants(Checks checks) {
-        checks.due("NONE", WorthCache.NONE, -1);
-        checks.due("HIT", WorthCache.HIT, 0);
-        checks.due("LET_IN", WorthCache.LET_IN, 1);
-        checks.due("KEPT_OUT", WorthCache.KEPT_OUT, 2);
-        checks.due("public final", WorthCache.class.getModifiers(), Modifier.PUBLIC | Modifier.FINAL);
+        constant(checks, "NONE", -1);
+        constant(checks, "HIT", 0);
+        constant(checks, "LET_IN", 1);
+        constant(checks, "KEPT_OUT", 2);
+    }
+
+    private static void constant(Checks checks, String name, int value) {
+        try {
+            Field field = WorthCache.class.getDeclaredField(name);
+            checks.same("the type of " + name, field.getType().getName(), "int");
+            checks.same(name + " is", Modifier.toString(field.getModifiers()), "public static final");
+            checks.due(name, field.getInt(null), value);
+        } catch (ReflectiveOperationException e) {
+            throw new IllegalStateException("no constant " + name, e);
+        }
+    }
+
+    private static void constructor(Checks checks) {
+        List<String> got = new ArrayList<>();
+        for (Constructor<?> one : WorthCache.class.getDeclaredConstructors()) {
+            got.add(one.toString());
+        }
+        checks.same("the constructors", String.join("\n", got), "public WorthCache()");
     }
 
     private static void methods(Checks checks) {
@@ -67,6 +89,9 @@ final class FaceTest {
 
     private static String written(Method method) {
         StringBuilder text = new StringBuilder();
+        if (method.getModifiers() != Modifier.PUBLIC) {
+            text.append(Modifier.toString(method.getModifiers())).append(' ');
+        }
         text.append(method.getReturnType()).append(' ').append(method.getName()).append('(');
         for (int i = 0; i < method.getParameterCount(); i++) {
             text.append(i == 0 ? "" : ", ").append(method.getParameterTypes()[i]);
@@ -79,11 +104,32 @@ final class FaceTest {
     }
 
     private static void nothingElse(Checks checks) {
+        checks.same("the class is", WorthCache.class.toGenericString(), "public final class WorthCache");
+        checks.same("it extends", WorthCache.class.getSuperclass().getName(), "java.lang.Object");
+        checks.due("its interfaces", WorthCache.class.getInterfaces().length, 0);
+        checks.due("its public classes", WorthCache.class.getClasses().length, 0);
+        checks.due("its protected classes", protectedClasses(), 0);
+        fields(checks);
+        names(checks);
+    }
+
+    private static int protectedClasses() {
+        int count = 0;
+        for (Class<?> inside : WorthCache.class.getDeclaredClasses()) {
+            count += Modifier.isProtected(inside.getModifiers()) ? 1 : 0;
+        }
+        return count;
+    }
+
+    private static void fields(Checks checks) {
         Set<String> face = new HashSet<>(Set.of("NONE", "HIT", "LET_IN", "KEPT_OUT"));
         for (Field field : WorthCache.class.getDeclaredFields()) {
             boolean isPrivate = Modifier.isPrivate(field.getModifiers());
             checks.due(field.getName() + " is private", isPrivate, !face.contains(field.getName()));
         }
+    }
+
+    private static void names(Checks checks) {
         Set<String> publicNames = new HashSet<>();
         for (Method method : WorthCache.class.getDeclaredMethods()) {
             if (Modifier.isPublic(method.getModifiers())) {
