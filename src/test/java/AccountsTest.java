@@ -125,6 +125,23 @@ final class AccountsTest {
                 purge() = 2
                 entries() = 0
                 """);
+        checks.script("promise 22, entries: one for a thing; not what has left, nor what was kept out", """
+                fetch(0, 30, 1, 9) = LET_IN
+                fetch(0, 30, 1, 9) = HIT
+                fetch(0, 20, 1, 9) = LET_IN
+                entries() = 1
+                fetch(1, 40, 1, 9) = LET_IN
+                fetch(2, 40, 1, 9) = LET_IN
+                entries() = 3
+                fetch(3, 61, 1, 9) = LET_IN
+                entries() = 2
+                fetch(4, 101, 1, 9) = KEPT_OUT
+                entries() = 2
+                fetch(3, 101, 1, 9) = KEPT_OUT
+                entries() = 1
+                setCapacity(1) = 1
+                entries() = 0
+                """);
     }
 
     private static void used(Checks checks) {
@@ -139,6 +156,20 @@ final class AccountsTest {
                 used() = 33
                 drop(31) = 21
                 used() = 12
+                """);
+        checks.script("promise 23, used: not what has left, nor what was kept out", """
+                fetch(0, 20, 1, 9) = LET_IN
+                fetch(1, 40, 1, 9) = LET_IN
+                fetch(2, 40, 1, 9) = LET_IN
+                used() = 100
+                fetch(3, 61, 1, 9) = LET_IN
+                used() = 81
+                fetch(4, 101, 1, 9) = KEPT_OUT
+                used() = 81
+                fetch(3, 101, 1, 9) = KEPT_OUT
+                used() = 20
+                setCapacity(19) = 1
+                used() = 0
                 """);
         checks.script("promise 23, used: of all entries, over or pinned", """
                 fetch(0, 10, 1, 5) = LET_IN
@@ -171,6 +202,17 @@ final class AccountsTest {
                 pass(5) = 5
                 fetch(0, 11, 1, 5) = LET_IN
                 hits() = 2
+                """);
+        checks.script("promise 24, hits: no refused fetch of what is in", """
+                fetch(0, 10, 7, 5) = LET_IN
+                fetch(0, 10, -1, 5) = throws.IllegalArgumentException
+                fetch(0, 10, 1001, 5) = throws.IllegalArgumentException
+                fetch(0, 10, 7, 0) = throws.IllegalArgumentException
+                fetch(0, 10, 7, 10001) = throws.IllegalArgumentException
+                hits() = 0
+                bytesHit() = 0
+                saved() = 0
+                paid() = 7
                 """);
         checks.script("promise 24, hits: after 512 calls", """
                 fetch(0, 10, 1, 5) = LET_IN

@@ -14,6 +14,7 @@ final class EntriesTest {
         placeOf(checks);
         endsFirst(checks);
         wouldLeaveRoom(checks);
+        wouldLeaveOrder(checks);
         wouldLeaveOver(checks);
         wouldLeavePinned(checks);
         wouldLeaveAsFetch(checks);
@@ -553,6 +554,16 @@ final class EntriesTest {
                 fetch(31, 1, 1, 8) = LET_IN
                 endsFirst() = 31
                 """);
+        checks.script("promise 17, endsFirst: a hit does not move the end", """
+                fetch(0, 10, 1, 8) = LET_IN
+                fetch(1, 10, 1, 9) = LET_IN
+                fetch(0, 10, 1, 100) = HIT
+                endsFirst() = 0
+                fetch(1, 10, 1, 1) = HIT
+                endsFirst() = 0
+                fetch(0, 11, 1, 10) = LET_IN
+                endsFirst() = 1
+                """);
         checks.script("promise 17, endsFirst: over or not, pinned or not", """
                 fetch(0, 10, 1, 9) = LET_IN
                 fetch(1, 10, 1, 5) = LET_IN
@@ -605,6 +616,30 @@ final class EntriesTest {
                 wouldLeave(40) = 1
                 wouldLeave(41) = 2
                 wouldLeave(100) = 2
+                """);
+    }
+
+    private static void wouldLeaveOrder(Checks checks) {
+        checks.script("promise 18, wouldLeave: counted in the order of leaving, by the worth", """
+                fetch(0, 30, 9, 9) = LET_IN
+                fetch(1, 50, 5, 9) = LET_IN
+                fetch(2, 20, 1, 9) = LET_IN
+                wouldLeave(20) = 1
+                wouldLeave(21) = 2
+                wouldLeave(70) = 2
+                wouldLeave(71) = 3
+                """);
+        checks.script("promise 18, wouldLeave: of the same worth the longest ago first, also after a hit", """
+                fetch(0, 50, 0, 9) = LET_IN
+                fetch(1, 30, 0, 9) = LET_IN
+                fetch(2, 20, 0, 9) = LET_IN
+                wouldLeave(50) = 1
+                wouldLeave(51) = 2
+                wouldLeave(81) = 3
+                fetch(0, 50, 0, 9) = HIT
+                wouldLeave(30) = 1
+                wouldLeave(31) = 2
+                wouldLeave(51) = 3
                 """);
     }
 

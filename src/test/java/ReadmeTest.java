@@ -16,25 +16,26 @@ final class ReadmeTest {
         checks.script("README.md: each call answers what stands behind it", callsOf(readme));
     }
 
-    /** A line that shows no call with its answer ends the tests: it would not be made. */
     private static String callsOf(Path readme) {
-        List<String> calls = new ArrayList<>();
         List<String> lines = linesOf(readme);
-        int first = lines.indexOf(FIRST);
-        for (String line : first < 0 ? lines : lines.subList(first + 1, lines.size())) {
-            if (line.isEmpty()) {
-                break;
-            }
-            Matcher call = CALL.matcher(line);
-            if (!call.matches()) {
-                throw new AssertionError("no call with its answer in " + readme + ": " + line);
-            }
-            calls.add(call.group(1) + " = " + (call.group(2) == null ? "" : "throws.") + call.group(3));
+        int first = lines.indexOf(FIRST) + 1;
+        List<String> calls = new ArrayList<>();
+        for (int at = first; first > 0 && at < lines.size() && !lines.get(at).isEmpty(); at++) {
+            calls.add(callOf(lines.get(at)));
         }
         if (calls.isEmpty()) {
-            throw new AssertionError("no calls in " + readme);
+            throw new AssertionError("no run of calls in " + readme);
         }
         return String.join("\n", calls);
+    }
+
+    /** A line that is no call with its answer ends the tests, as it would not be tried. */
+    private static String callOf(String line) {
+        Matcher call = CALL.matcher(line);
+        if (!call.matches()) {
+            throw new AssertionError("no call with its answer: " + line);
+        }
+        return call.group(1) + " = " + (call.group(2) == null ? "" : "throws.") + call.group(3);
     }
 
     private static List<String> linesOf(Path readme) {
